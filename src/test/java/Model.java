@@ -18,6 +18,7 @@ final class Model {
     private final boolean[] reached = new boolean[N];
     private final boolean[] good = new boolean[N];
     private final long[] rounds = new long[N];
+    private final long[] edges = new long[N];
 
     Model(boolean listing) {
         this.listing = listing;
@@ -90,6 +91,7 @@ final class Model {
         }
         for (int h = 0; h < N; h++) {
             rounds[h] = findRound(h);
+            edges[h] = set(3, h);
         }
     }
 
@@ -283,11 +285,11 @@ final class Model {
 
     long joins(long blocks) {
         long joined = 0L;
-        for (int turn = 0; turn < N + 1; turn++) {
+        long before = -1L;
+        while (joined != before) {
+            before = joined;
             for (int b = 0; b < N; b++) {
-                if (in(blocks | joined, b)) {
-                    joined |= set(3, b);
-                }
+                joined |= in(blocks | joined, b) ? edges[b] : 0L;
             }
         }
         return joined;
