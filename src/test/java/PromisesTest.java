@@ -172,6 +172,7 @@ public final class PromisesTest {
         counts("tangle that is not reached", Check.graph(row(0), row(4, 5, 6), row(5, 6), row(6, 5)), 4, 1, 1, 0, 0, 1);
         counts("a head entered from outside its round", Check.graph(row(0, 1, 2), row(1, 2, 3), row(2, 3), row(3, 3, 1)), 4, 4, 0, 1, 1, 0);
         counts("0 to itself", Check.graph(row(0, 0)), 1, 1, 0, 1, 1, 1);
+        counts("two rounds side by side", Check.graph(row(0, 1), row(1, 1, 2), row(2, 2, 3), row(3)), 4, 4, 4, 2, 1, 1);
         counts("0 not told", Check.graph(row(1, 1, 2), row(2)), 2, 0, 2, 0, 0, 1);
         counts("a target not told is no END", Check.graph(row(0, 9)), 1, 1, 0, 0, 0, 1);
         counts("two closing blocks, one round", Check.graph(row(0, 1, 2), row(1, 0), row(2, 0, 3), row(3)), 4, 4, 4, 1, 1, 1);
@@ -275,6 +276,8 @@ public final class PromisesTest {
         sets(aside, 3, 0L, 8L, 8L, 0L, 0L, 0L);
         sets(aside, 4, 0L, 1L, 1L, 0L, 16L, 16L);
         sets(aside, 5, 15L, 2L, 4L, 8L, 0L, 0L);
+        sets(Check.graph(row(0, 1, 2), row(1, 3, 9), row(2, 3, 9), row(3)), 3, 0L, 8L, 8L, 0L);
+        sets(Check.graph(row(0, 1, 2), row(1, 3, 9), row(2, 3, 9), row(3)), 4, 0L, 1L, 1L, 0L);
         // 3 leads into the round but is not reached, so it is not in it.
         check.due("a source not reached: set(2, 1)", Check.graph(row(0, 1), row(1, 2), row(2, 1), row(3, 2)).set(2, 1), 6L);
     }
