@@ -273,7 +273,7 @@ final class Model {
     }
 
     int inner(int b) {
-        int best = Check.THROWS;
+        int best = Counted.THROWS;
         for (int h = N - 1; isBlock(b) && h >= 0; h--) {
             long round = round(h);
             if (in(round, b) && (best < 0 || Long.bitCount(round) <= Long.bitCount(round(best)))) {

@@ -1,11 +1,16 @@
+import java.util.ArrayList;
+import java.util.List;
 import java.util.Random;
 
 /** Compares runs of calls, the same ones each time, with the document's terms written out. */
 public final class ModelTest {
-    private static final int[] ODD = {-1, 40, 41, 63, 64, 104, -64, Integer.MIN_VALUE, Integer.MAX_VALUE};
+    /** So many blocks' questions go to one object, which must not be asked too often. */
+    private static final int SHARE = 14;
 
     private final Check check = new Check();
     private final Random random = new Random(20261115L);
+    /** The changes of the run so far: a number for the call, the block, the target. */
+    private final List<int[]> changes = new ArrayList<>();
 
     public static void main(String[] args) {
         ModelTest test = new ModelTest();
@@ -21,8 +26,9 @@ public final class ModelTest {
     /** Changes and questions in turns on up to seven blocks, whose ways can all be listed. */
     private void few(int run) {
         check.at("few blocks, run " + run);
+        changes.clear();
         int[] names = {0, 1, 39, 2 + random.nextInt(10), 12 + random.nextInt(10), 22 + random.nextInt(10), 32 + random.nextInt(7)};
-        BlockWays ways = new BlockWays();
+        Counted ways = new Counted();
         Model model = new Model(true);
         int share = 1 + random.nextInt(5);
         for (int name : names) {
@@ -36,12 +42,13 @@ public final class ModelTest {
             }
         }
         model.study();
-        askAll(ways, model);
+        askAll(model);
     }
 
     private void many(int run) {
         check.at("many blocks, run " + run);
-        BlockWays ways = new BlockWays();
+        changes.clear();
+        Counted ways = new Counted();
         Model model = new Model(false);
         int reach = 1 + random.nextInt(12);
         for (int b = 0; b < 40; b++) {
@@ -60,10 +67,10 @@ public final class ModelTest {
             block(ways, model, b);
         }
         model.study();
-        askAll(ways, model);
+        askAll(model);
     }
 
-    private void change(BlockWays ways, Model model, int[] names, int share) {
+    private void change(Counted ways, Model model, int[] names, int share) {
         int b = any(names);
         switch (random.nextInt(8 + share)) {
             case 0:
@@ -80,43 +87,68 @@ public final class ModelTest {
     }
 
     private int any(int[] names) {
-        return random.nextInt(40) == 0 ? ODD[random.nextInt(ODD.length)] : names[random.nextInt(names.length)];
+        return random.nextInt(40) == 0 ? Check.NO_BLOCKS[random.nextInt(Check.NO_BLOCKS.length)] : names[random.nextInt(names.length)];
     }
 
-    private void block(BlockWays ways, Model model, int b) {
+    private void block(Counted ways, Model model, int b) {
+        changes.add(new int[] {0, b, 0});
         check.due("block(" + b + ")", ways.block(b), model.block(b));
     }
 
-    private void target(BlockWays ways, Model model, int b, int to) {
+    private void target(Counted ways, Model model, int b, int to) {
+        changes.add(new int[] {1, b, to});
         check.due("target(" + b + ", " + to + ")", ways.target(b, to), model.target(b, to));
     }
 
-    private void drop(BlockWays ways, Model model, int b) {
+    private void drop(Counted ways, Model model, int b) {
+        changes.add(new int[] {2, b, 0});
         check.due("drop(" + b + ")", ways.drop(b), model.drop(b));
     }
 
-    private void askSome(BlockWays ways, Model model, int[] names) {
+    private void askSome(Counted ways, Model model, int[] names) {
         for (int i = 0; i < 2; i++) {
             askOne(ways, model, random.nextInt(7), any(names));
             askSet(ways, model, random.nextInt(7) - 1, any(names));
         }
     }
 
-    private void askAll(BlockWays ways, Model model) {
-        for (int what = -1; what <= 6; what++) {
-            askOne(ways, model, 0, what);
-        }
-        for (int b = -1; b <= 40; b++) {
-            for (int kind = 1; kind <= 5; kind++) {
-                askOne(ways, model, kind, b);
-            }
+    private void askAll(Model model) {
+        for (int first = -1; first <= 40; first += SHARE) {
+            Counted ways = again();
             for (int what = -1; what <= 6; what++) {
-                askSet(ways, model, what, b);
+                askOne(ways, model, 0, what);
+            }
+            for (int b = first; b <= 40 && b < first + SHARE; b++) {
+                askAbout(ways, model, b);
             }
         }
     }
 
-    private void askOne(BlockWays ways, Model model, int kind, int b) {
+    private void askAbout(Counted ways, Model model, int b) {
+        for (int kind = 1; kind <= 5; kind++) {
+            askOne(ways, model, kind, b);
+        }
+        for (int what = -1; what <= 6; what++) {
+            askSet(ways, model, what, b);
+        }
+    }
+
+    /** A new object with all the changes of the run. */
+    private Counted again() {
+        Counted ways = new Counted();
+        for (int[] change : changes) {
+            if (change[0] == 0) {
+                ways.block(change[1]);
+            } else if (change[0] == 1) {
+                ways.target(change[1], change[2]);
+            } else {
+                ways.drop(change[1]);
+            }
+        }
+        return ways;
+    }
+
+    private void askOne(Counted ways, Model model, int kind, int b) {
         switch (kind) {
             case 0:
                 check.due("count(" + b + ")", ways.count(b), model.count(b));
@@ -131,7 +163,7 @@ public final class ModelTest {
                 check.due("depth(" + b + ")", ways.depth(b), model.depth(b));
                 break;
             case 4:
-                check.due("inner(" + b + ")", Check.inner(ways, b), model.inner(b));
+                check.due("inner(" + b + ")", ways.inner(b), model.inner(b));
                 break;
             default:
                 long blocks = random.nextLong() & random.nextLong() & random.nextLong();
@@ -140,7 +172,7 @@ public final class ModelTest {
         }
     }
 
-    private void askSet(BlockWays ways, Model model, int what, int b) {
+    private void askSet(Counted ways, Model model, int what, int b) {
         check.due("set(" + what + ", " + b + ")", ways.set(what, b), model.set(what, b));
     }
 }
